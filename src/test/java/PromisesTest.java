@@ -29,6 +29,7 @@ public final class PromisesTest {
         promise13Verify();
         promise13VerifyOrder();
         promise14SwapRounds();
+        promise14GreatestTimetable();
         promise15Result();
         promise15ResultOfMissing();
         promise16Table();
@@ -526,6 +527,22 @@ public final class PromisesTest {
         x.makePlain(true);
         x.washOut(5);
         Check.dueThrow("14 a washed out round", STATE, () -> x.swapRounds(1, 2) ? 1 : 0);
+    }
+
+    private static void promise14GreatestTimetable() {
+        LeagueRounds x = plain(20, true);
+        x.shareGround(0, 19);
+        x.awayCap(19);
+        x.ban(19, 38, 0);
+        Check.due("13 twenty teams: 0 and 19 take turns at home", 0, x::verify);
+        int last = x.opponent(19, 37);
+        Check.due("14 twenty teams, first and last round", 1, () -> x.swapRounds(0, 37) ? 1 : 0);
+        Check.due("14 the last is the first now", last, () -> x.opponent(19, 0));
+        Check.due("14 and the first the last", 0, () -> x.opponent(19, 37));
+        Check.due("17 the last round of twenty teams", 10, () -> x.washOut(37));
+        x.reserve(0);
+        Check.due("20 ten games on one date", 1, x::catchUp);
+        Check.due("21 the last game", 0, () -> x.catchDate(37, 0));
     }
 
     private static void promise15Result() {
