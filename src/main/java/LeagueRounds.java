@@ -595,14 +595,16 @@ public final class LeagueRounds {
     }
 
     /**
-     * The search for a single timetable that keeps all wishes. The bye of a round is held as a game
-     * against a team too many, number teamCount: so it is given once in a round, and to each team once.
+     * The search for a single timetable that keeps all wishes. A second bye in a round is a choice like
+     * any other and counts, though nothing complete is ever found behind it: with n teams each round has
+     * an odd number of byes, and there are n byes for n rounds.
      */
     private static final class Search {
         private final Wishes wishes;
         private final Timetable draft = new Timetable(SEARCH_TEAMS, SEARCH_ROUNDS);
         private final int[] busy = new int[SEARCH_ROUNDS];
-        private final int[] met = new int[SEARCH_TEAMS + 1];
+        private final int[] met = new int[SEARCH_TEAMS];
+        private int hadBye;
         private int everyone;
         private int choicesLeft;
 
@@ -618,13 +620,16 @@ public final class LeagueRounds {
             draft.begin(teamCount, singleRounds(teamCount));
             Arrays.fill(busy, 0);
             Arrays.fill(met, 0);
-            int partners = teamCount + teamCount % 2;
-            everyone = (1 << partners) - 1;
+            hadBye = 0;
+            everyone = (1 << teamCount) - 1;
             choicesLeft = budget;
             return goOn(0, 0);
         }
 
-        /** The depth is the number of choices that stand; each takes two places of a round. */
+        /**
+         * The depth is the number of choices that stand. No two teams meet twice and none has two byes, so
+         * with seven teams they are 21 games and 7 byes at most, and with eight 28 games.
+         */
         private int goOn(int depth, int from) {
             int round = busy[from] == everyone ? from + 1 : from;
             if (!draft.hasRound(round)) {
@@ -679,18 +684,17 @@ public final class LeagueRounds {
         }
 
         private int tryBye(int depth, int round, int team) {
-            int nobody = draft.teamCount();
-            if (nobody % 2 == 0 || !canMeet(round, team, nobody) || !wishes.allowBye(round, team)) {
+            if (draft.teamCount() % 2 == 0 || hasBit(hadBye, team) || !wishes.allowBye(round, team)) {
                 return NOT_FOUND;
             }
             if (choicesLeft == 0) {
                 return BUDGET_SPENT;
             }
             choicesLeft--;
-            flipMeeting(round, team, nobody);
+            flipBye(round, team);
             int end = goOn(depth + 1, round);
             if (end == NOT_FOUND) {
-                flipMeeting(round, team, nobody);
+                flipBye(round, team);
             }
             return end;
         }
@@ -700,6 +704,11 @@ public final class LeagueRounds {
             busy[round] ^= 1 << a | 1 << b;
             met[a] ^= 1 << b;
             met[b] ^= 1 << a;
+        }
+
+        private void flipBye(int round, int team) {
+            busy[round] ^= 1 << team;
+            hadBye ^= 1 << team;
         }
     }
 

@@ -174,7 +174,7 @@ final class PlainModel {
                 }
             }
         }
-        if (n % 2 == 1 && !everBye(t) && !hasBye(r)) {
+        if (n % 2 == 1 && !everBye(t)) {
             opponents[r][t] = NONE;
             venues[r][t] = NONE;
             int end = ifMade();
@@ -213,15 +213,6 @@ final class PlainModel {
 
     private boolean everBye(int t) {
         return everMet(t, NONE);
-    }
-
-    private boolean hasBye(int r) {
-        for (int o : opponents[r]) {
-            if (o == NONE) {
-                return true;
-            }
-        }
-        return false;
     }
 
     private boolean draftBreaks() {

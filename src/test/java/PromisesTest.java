@@ -21,6 +21,8 @@ public final class PromisesTest {
         promise8MakeBudget();
         promise8MakeWishes();
         promise8MakeBye();
+        promise8MakeByesInOneRound();
+        promise8MakeByeBudget();
         promise8MakeForgetsOrStays();
         promise9Rounds();
         promise10Opponent();
@@ -356,9 +358,66 @@ public final class PromisesTest {
         x.ban(0, 0, 1);
         Check.due("8 no game for 0 in round 0", 1, () -> x.make(4000));
         Check.same("8 so the bye", "(0) 1-2 3-4", round(x, 5, 0));
+        x.teams(4);
+        x.ban(0, 0, 0);
+        x.ban(0, 0, 1);
+        Check.due("8 no bye with an even number", 0, () -> x.make(4000));
+    }
+
+    /** No team has a game in round 0: so each gets its bye there, and none is left for round 1. */
+    private static LeagueRounds idleRound(int n) {
+        LeagueRounds x = league(n);
+        for (int team = 0; team < n; team++) {
+            x.ban(team, 0, 0);
+            x.ban(team, 0, 1);
+        }
+        return x;
+    }
+
+    private static void promise8MakeByesInOneRound() {
+        LeagueRounds x = league(5);
+        x.ban(0, 0, 0);
+        x.ban(0, 0, 1);
         x.ban(1, 0, 0);
         x.ban(1, 0, 1);
-        Check.due("8 one bye in a round: 0 has it in round 0, none is left for 1", 0, () -> x.make(1));
+        Check.due("8 behind the bye of 0 that of 1 would be made", 2, () -> x.make(1));
+        x.teams(5);
+        x.fixGame(2, 3, 0);
+        x.fixGame(2, 4, 0);
+        // 0-1, 1-0, the bye of 0, and behind it that of 1; 2 can have nothing behind any of them.
+        Check.due("8 a second bye is counted", 0, () -> x.make(4));
+        Check.due("8 a second bye is one too many", 2, () -> x.make(3));
+        LeagueRounds five = idleRound(5);
+        // 5 byes; in round 1 eight games of 0, and behind each four of the least of the other three.
+        Check.due("8 five byes in a round", 0, () -> five.make(45));
+        Check.due("8 five byes in a round, one choice fewer", 2, () -> five.make(44));
+        Check.due("8 the fifth bye would be made", 2, () -> five.make(4));
+        LeagueRounds seven = idleRound(7);
+        // 7 byes, and in round 1 12 + 12 * 8 + 12 * 8 * 4 games.
+        Check.due("8 seven byes in a round", 0, () -> seven.make(499));
+        Check.due("8 seven byes in a round, one choice fewer", 2, () -> seven.make(498));
+    }
+
+    private static void promise8MakeByeBudget() {
+        LeagueRounds x = league(5);
+        x.fixGame(0, 4, 4);
+        x.fixGame(1, 4, 2);
+        // Round 0: 0-1, 2-3, (4). Round 1: 0-2, 1-3, 3-1, (1), 3-4. Round 2: 0-3, 1-4, (2). Round 3: (0),
+        // 1-2, (3), 2-1, (3), 1-3, 2-4. Round 4: 0-4, 1-2, (3).
+        Check.due("8 two second byes, one choice too few", 2, () -> x.make(20));
+        Check.due("8 2: no timetable", 0, x::rounds);
+        Check.due("8 two second byes taken back", 1, () -> x.make(21));
+        Check.same("8 each has one bye, each round one",
+                "0-1 2-3 (4) | 0-2 (1) 3-4 | 0-3 1-4 (2) | (0) 1-3 2-4 | 0-4 1-2 (3)", timetable(x, 5));
+        x.teams(5);
+        x.awayCap(1);
+        x.ban(0, 2, 1);
+        // Round 0: 0-1, 2-3, (4). Round 1: 0-2, 1-4, (3). Round 2: 0-3, 2-1, (1), (2), (0), 2-1, 4-3.
+        // Round 3: 3-0, (1), 2-4, 4-2. Round 4: 0-4, 1-3, (2).
+        Check.due("8 a second bye under a cap, one choice too few", 2, () -> x.make(19));
+        Check.due("8 a second bye under a cap", 1, () -> x.make(20));
+        Check.same("8 no team twice away",
+                "0-1 2-3 (4) | 0-2 1-4 (3) | (0) 2-1 4-3 | (1) 3-0 4-2 | 0-4 1-3 (2)", timetable(x, 5));
     }
 
     private static void promise8MakeForgetsOrStays() {
