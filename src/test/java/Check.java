@@ -1,3 +1,8 @@
+import java.lang.reflect.InvocationTargetException;
+import java.lang.reflect.Method;
+import java.util.Arrays;
+import java.util.Comparator;
+
 /** What the tests share: a call is due to answer a number or to throw, and every one that does not is told. */
 final class Check {
     interface Call {
@@ -5,8 +10,39 @@ final class Check {
     }
 
     private static int wrong = 0;
+    private static String test = "";
 
     private Check() {
+    }
+
+    /**
+     * Runs every static method of a class whose name begins with a word of what the document names, so that
+     * none is left out of a list by mistake. What goes wrong is told with the method's name.
+     */
+    static void runAll(Class<?> tests) {
+        Method[] methods = tests.getDeclaredMethods();
+        Arrays.sort(methods, Comparator.comparing(Method::getName));
+        int ran = 0;
+        for (Method method : methods) {
+            if (method.getName().matches("(promise|terms|bound)[0-9A-Z].*")) {
+                test = method.getName() + ": ";
+                runOne(method);
+                ran++;
+            }
+        }
+        test = "";
+        System.out.println(ran + " tests of " + tests.getName());
+    }
+
+    private static void runOne(Method method) {
+        try {
+            method.setAccessible(true);
+            method.invoke(null);
+        } catch (InvocationTargetException e) {
+            same("the test", "no exception", String.valueOf(e.getCause()));
+        } catch (IllegalAccessException e) {
+            same("the test", "run", String.valueOf(e));
+        }
     }
 
     static void due(String what, long want, Call call) {
@@ -24,7 +60,7 @@ final class Check {
     static void same(String what, String want, String got) {
         if (!want.equals(got)) {
             wrong++;
-            System.out.println(what + " answered " + got + ", due is " + want);
+            System.out.println(test + what + " answered " + got + ", due is " + want);
         }
     }
 

@@ -1,39 +1,50 @@
 import java.util.Random;
 
-/** Runs of calls by a fixed seed, right and wrong ones, on the class and on the plain model side by side. */
+/**
+ * Runs of calls by a fixed seed, right and wrong ones, each run as long as an object is used, on the class
+ * and on the plain model side by side.
+ */
 public final class ModelTest {
-    private static final int RUNS = 600;
-    private static final int CALLS = 500;
+    private static final int RUNS = 4000;
+    private static final int MOST_CALLS = 512;
+    private static final int MOST_DATES_ASKED = 40;
 
     private final Random random;
     private final LeagueRounds x = new LeagueRounds();
     private final PlainModel y = new PlainModel();
     private final int run;
+    private int calls = 0;
     private int n = 4;
     private int rounds = 0;
 
-    private ModelTest(int run) {
+    private ModelTest(int run, Random random) {
         this.run = run;
-        random = new Random(run);
+        this.random = random;
     }
 
     public static void main(String[] args) {
+        // One source for all runs: the first numbers of sources with seeds in succession are much alike.
+        Random random = new Random(1);
         for (int run = 0; run < RUNS && Check.wrong() == 0; run++) {
-            new ModelTest(run).go();
+            new ModelTest(run, random).go();
         }
         Check.end();
     }
 
     private void go() {
-        for (int call = 0; call < CALLS && Check.wrong() == 0; call++) {
+        newTeams();
+        while (calls < MOST_CALLS && Check.wrong() == 0) {
             any();
             rounds = y.rounds();
         }
-        same("rounds()", x::rounds, y::rounds);
     }
 
+    /** One call on each: no more than an object is promised to answer. */
     private void same(String call, Check.Call got, Check.Call want) {
-        Check.same("run " + run + ": " + call, Check.answerOf(want), Check.answerOf(got));
+        if (calls < MOST_CALLS) {
+            calls++;
+            Check.same("run " + run + ", call " + calls + ": " + call, Check.answerOf(want), Check.answerOf(got));
+        }
     }
 
     private int upTo(int count) {
@@ -150,13 +161,20 @@ public final class ModelTest {
 
     private void catchUp() {
         same("catchUp()", x::catchUp, y::catchUp);
+        int asked = 0;
         for (int r = 0; r < rounds; r++) {
             for (int t = 0; t < n; t++) {
-                int round = r;
-                int team = t;
-                same("catchDate(" + r + ", " + t + ")", () -> x.catchDate(round, team), () -> y.catchDate(round, team));
+                if (asked < MOST_DATES_ASKED && y.isWashedOut(r)) {
+                    asked++;
+                    catchDate(r, t);
+                }
             }
         }
+    }
+
+    private void catchDate(int round, int team) {
+        same("catchDate(" + round + ", " + team + ")",
+                () -> x.catchDate(round, team), () -> y.catchDate(round, team));
     }
 
     private void result() {
@@ -172,16 +190,37 @@ public final class ModelTest {
         int team = about(n);
         int round = about(rounds);
         int field = about(8);
-        same("rounds()", x::rounds, y::rounds);
-        same("opponent(" + team + ", " + round + ")", () -> x.opponent(team, round), () -> y.opponent(team, round));
-        same("venue(" + team + ", " + round + ")", () -> x.venue(team, round), () -> y.venue(team, round));
-        same("breaks(" + team + ")", () -> x.breaks(team), () -> y.breaks(team));
-        same("breaks(-1)", () -> x.breaks(-1), () -> y.breaks(-1));
-        same("breaks(-2)", () -> x.breaks(-2), () -> y.breaks(-2));
-        same("verify()", x::verify, y::verify);
-        same("table(" + team + ", " + field + ")", () -> x.table(team, field), () -> y.table(team, field));
-        same("table(" + team + ", 0)", () -> x.table(team, 0), () -> y.table(team, 0));
-        same("missing()", x::missing, y::missing);
-        same("catchDate(" + round + ", " + team + ")", () -> x.catchDate(round, team), () -> y.catchDate(round, team));
+        switch (random.nextInt(10)) {
+            case 0:
+                same("rounds()", x::rounds, y::rounds);
+                break;
+            case 1:
+                same("opponent(" + team + ", " + round + ")",
+                        () -> x.opponent(team, round), () -> y.opponent(team, round));
+                break;
+            case 2:
+                same("venue(" + team + ", " + round + ")", () -> x.venue(team, round), () -> y.venue(team, round));
+                break;
+            case 3:
+                same("breaks(" + team + ")", () -> x.breaks(team), () -> y.breaks(team));
+                break;
+            case 4:
+                same("breaks(-1)", () -> x.breaks(-1), () -> y.breaks(-1));
+                break;
+            case 5:
+                same("verify()", x::verify, y::verify);
+                break;
+            case 6:
+                same("table(" + team + ", " + field + ")", () -> x.table(team, field), () -> y.table(team, field));
+                break;
+            case 7:
+                same("table(" + team + ", 0)", () -> x.table(team, 0), () -> y.table(team, 0));
+                break;
+            case 8:
+                same("missing()", x::missing, y::missing);
+                break;
+            default:
+                catchDate(round, team);
+        }
     }
 }

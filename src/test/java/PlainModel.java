@@ -399,6 +399,10 @@ final class PlainModel {
         return missing() - before;
     }
 
+    boolean isWashedOut(int round) {
+        return washed.contains(round);
+    }
+
     int reserve(int date) {
         argument(0 <= date && date <= 99);
         state(!dates.contains(date) && dates.size() < 6);
