@@ -31,6 +31,7 @@ final class Check {
             }
         }
         test = "";
+        dueTrue("that there are tests in " + tests.getName(), ran > 0);
         System.out.println(ran + " tests of " + tests.getName());
     }
 

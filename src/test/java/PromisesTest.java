@@ -9,41 +9,7 @@ public final class PromisesTest {
     private static final Class<NoSuchElementException> ELEMENT = NoSuchElementException.class;
 
     public static void main(String[] args) {
-        promise1NewObject();
-        promise2Teams();
-        promise3Ban();
-        promise4ShareGround();
-        promise5FixGame();
-        promise6AwayCap();
-        promise7MakePlain();
-        promise7MakePlainForgets();
-        promise8Make();
-        promise8MakeBudget();
-        promise8MakeWishes();
-        promise8MakeBye();
-        promise8MakeByesInOneRound();
-        promise8MakeByeBudget();
-        promise8MakeForgetsOrStays();
-        promise9Rounds();
-        promise10Opponent();
-        promise11Venue();
-        promise12Breaks();
-        promise13Verify();
-        promise13VerifyOrder();
-        promise14SwapRounds();
-        promise14GreatestTimetable();
-        promise15Result();
-        promise15ResultOfMissing();
-        promise16Table();
-        promise16TableOrder();
-        promise17WashOut();
-        promise18Reserve();
-        promise19Missing();
-        promise20CatchUp();
-        promise20CatchUpOddRing();
-        promise20CatchUpLooksAhead();
-        promise20CatchUpManyGames();
-        promise21CatchDate();
+        Check.runAll(PromisesTest.class);
         Check.end();
     }
 

@@ -170,6 +170,18 @@ public final class SearchBoundaryTest {
         Check.due("rounds can be exchanged", 1, () -> x.swapRounds(2, 2) ? 1 : 0);
     }
 
+    private static void promise8FoundAndTheWishesStay() {
+        LeagueRounds x = Leagues.wishes();
+        Check.due("found", 1, () -> x.make(4000));
+        Check.due("bans", 2, () -> x.ban(0, 38, 0));
+        Check.due("pairs", 2, () -> x.shareGround(1, 2));
+        Check.due("fixed games", 2, () -> x.fixGame(3, 2, 0));
+        LeagueRounds y = capped(4, 2);
+        Check.due("found with a cap", 1, () -> y.make(6));
+        y.makePlain(true);
+        Check.due("the cap", 5, y::verify);
+    }
+
     private static void promise8FoundAfterASeasonLikeBeforeIt() {
         LeagueRounds played = Leagues.season();
         LeagueRounds fresh = Leagues.league(5);
@@ -342,6 +354,14 @@ public final class SearchBoundaryTest {
         x.fixGame(4, 3, 0);
         Check.due("found", 1, () -> x.make(4000));
         Check.same("the bye is of another", "0-1 (2) 4-3", Leagues.round(x, 5, 0));
+        LeagueRounds home = Leagues.league(5);
+        home.fixGame(0, 1, 0);
+        home.ban(0, 0, 0);
+        exactlyNoChoice("the home team, which can't have its game", home);
+        LeagueRounds away = Leagues.league(5);
+        away.fixGame(1, 0, 0);
+        away.ban(0, 0, 1);
+        exactlyNoChoice("the away team, which can't", away);
     }
 
     private static void termsTwoFixedGamesOfATeamInOneRound() {

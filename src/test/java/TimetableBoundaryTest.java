@@ -143,6 +143,18 @@ public final class TimetableBoundaryTest {
         Check.due("and are broken", 2, x::verify);
     }
 
+    private static void promise7TheWishesStay() {
+        LeagueRounds x = Leagues.wishes();
+        x.makePlain(true);
+        Check.due("bans", 2, () -> x.ban(0, 38, 0));
+        Check.due("pairs", 2, () -> x.shareGround(1, 2));
+        Check.due("fixed games", 2, () -> x.fixGame(3, 2, 0));
+        LeagueRounds y = Leagues.league(4);
+        y.awayCap(2);
+        y.makePlain(true);
+        Check.due("the cap", 5, y::verify);
+    }
+
     private static void promise7ResultsAreGone() {
         LeagueRounds x = Leagues.plain(4, false);
         x.result(0, 0, 1, 0);
@@ -355,6 +367,20 @@ public final class TimetableBoundaryTest {
         LeagueRounds x = Leagues.awayFirst(0);
         // Nineteen times away and then nineteen times at home.
         Check.due("twice eighteen", 36, () -> x.breaks(0));
+    }
+
+    private static void promise12AllAreTheSumOfEach() {
+        LeagueRounds[] each = {Leagues.plain(4, true), Leagues.season(), Leagues.plain(20, true),
+            Leagues.awayFirst(0), Leagues.awayLast(19)};
+        int[] teams = {4, 5, 20, 20, 20};
+        for (int i = 0; i < each.length; i++) {
+            LeagueRounds x = each[i];
+            int sum = 0;
+            for (int team = 0; team < teams[i]; team++) {
+                sum += x.breaks(team);
+            }
+            Check.due("timetable " + i, sum, () -> x.breaks(NONE));
+        }
     }
 
     private static void promise12NoSuchTeam() {

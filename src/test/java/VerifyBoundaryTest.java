@@ -124,6 +124,15 @@ public final class VerifyBoundaryTest {
         dueVerify("that, and both at home later", 3, paired(5, 0, 3));
     }
 
+    private static void promise13PairOfTwentyTeams() {
+        LeagueRounds x = Leagues.plain(20, true);
+        // They meet in round 0 and take turns at home.
+        x.shareGround(0, 19);
+        dueVerify("first and last team", 0, x);
+        x.shareGround(19, 1);
+        dueVerify("both at home in the last round", 3, x);
+    }
+
     private static void promise13FixedGame() {
         dueVerify("in the first round", 0, fixed(4, false, 0, 3, 0));
         dueVerify("the other way", 4, fixed(4, false, 3, 0, 0));
@@ -165,6 +174,23 @@ public final class VerifyBoundaryTest {
         // Only in rounds 4 and 5, the last of a half and the first of the other, are 1 and 3 away twice.
         dueVerify("1, five teams, double", 5, capped(5, true, 1));
         dueVerify("2, five teams, double", 0, capped(5, true, 2));
+    }
+
+    private static void promise13CapBrokenByOneTeamAlone() {
+        LeagueRounds first = Leagues.plain(4, true);
+        // Team 0: home, three times away, twice home; none of the others is away more than twice.
+        first.swapRounds(2, 5);
+        first.awayCap(2);
+        dueVerify("the first team, 2", 5, first);
+        first.awayCap(3);
+        dueVerify("the first team, 3", 0, first);
+        LeagueRounds last = Leagues.plain(4, false);
+        // Team 3: home, away, away; none of the others is twice away.
+        last.swapRounds(0, 1);
+        last.awayCap(1);
+        dueVerify("the last team, 1", 5, last);
+        last.awayCap(2);
+        dueVerify("the last team, 2", 0, last);
     }
 
     private static void promise13GreatestCap() {

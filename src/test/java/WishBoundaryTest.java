@@ -148,14 +148,22 @@ public final class WishBoundaryTest {
 
     private static void promise2NoWishes() {
         LeagueRounds x = Leagues.wishes();
+        x.ban(0, 1, 1);
         x.teams(4);
-        Check.due("no ban", 1, () -> x.ban(0, 1, 0));
+        Check.due("no ban of a home game", 1, () -> x.ban(0, 1, 0));
+        Check.due("none of an away game", 2, () -> x.ban(0, 1, 1));
         Check.due("no pair", 1, () -> x.shareGround(1, 2));
         Check.due("no fixed game", 1, () -> x.fixGame(3, 2, 0));
         LeagueRounds y = capped(4, true, 1);
         y.teams(4);
         y.makePlain(true);
         Check.due("no cap", 0, y::verify);
+        LeagueRounds z = Leagues.league(4);
+        z.ban(0, 0, 0);
+        z.ban(3, 0, 1);
+        z.teams(4);
+        z.makePlain(false);
+        Check.due("none that counts", 0, z::verify);
     }
 
     private static void promise2NoWishesAfterAsManyAsThereMayBe() {
@@ -268,15 +276,6 @@ public final class WishBoundaryTest {
             x.ban(i % 20, i / 20 % 39, 0);
         }
         Check.due("the 511th, the 512th call", 511, () -> x.ban(19, 38, 1));
-    }
-
-    private static void promise3StaysWithATimetable() {
-        LeagueRounds x = Leagues.wishes();
-        x.makePlain(true);
-        Check.due("makePlain", 1, () -> x.ban(0, 1, 0));
-        LeagueRounds y = Leagues.wishes();
-        Check.due("found", 1, () -> y.make(4000));
-        Check.due("make", 1, () -> y.ban(0, 1, 0));
     }
 
     // Promise 4: two teams that are not the same, at most 6 pairs.
